@@ -30,12 +30,13 @@ public final class HexBroadsides {
     private final OrderText text;
 
     public HexBroadsides() {
-        sea = new Sea();
+        Sea present = new Sea();
+        sea = present;
         history = new History();
-        helm = new Helm(sea);
-        gunnery = new Gunnery(sea);
-        crews = new Crews(sea);
-        chart = new Chart(sea);
+        helm = new Helm(present);
+        gunnery = new Gunnery(present);
+        crews = new Crews(present);
+        chart = new Chart(present);
         text = new OrderText();
     }
 

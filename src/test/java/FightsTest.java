@@ -11,6 +11,7 @@ public final class FightsTest {
         forceByRange();
         raking();
         hidden();
+        hiddenInAllDirections();
         noForce();
         forceRefused();
         fireAtHull();
@@ -115,6 +116,24 @@ public final class FightsTest {
         Due.is("nothing is hidden off the lines", x.force(0, true, 4), 36);
     }
 
+    private static void hiddenInAllDirections() {
+        for (int k = 0; k < 6; k++) {
+            HexBroadsides x = new HexBroadsides();
+            x.begin(12, 12);
+            int step = 12 * ROW_STEP[k] + COLUMN_STEP[k];
+            x.addShip(0, 78, (k + 5) % 6, 60, 12, 60);
+            x.addShip(1, 78 + 3 * step, (k + 1) % 6, 60, 12, 60);
+            x.setRock(78 - step, true);
+            x.setRock(78 + 4 * step, true);
+            Due.is("force in the direction " + k, x.force(0, true, 1), 48);
+            x.setRock(78 + step, true);
+            Due.is("hidden near, direction " + k, x.force(0, true, 1), 0);
+            x.setRock(78 + step, false);
+            x.setRock(78 + 2 * step, true);
+            Due.is("hidden far, direction " + k, x.force(0, true, 1), 0);
+        }
+    }
+
     private static void noForce() {
         HexBroadsides x = new HexBroadsides();
         x.addShip(0, 44, 0, 12, 12, 60);
@@ -185,12 +204,36 @@ public final class FightsTest {
         x.addShip(1, 54, 0, 60, 4, 60);
         x.fire(0, true, 1, 0);
         Due.is("guns do not fall below 0", x.ship(1, 5), 0);
-        HexBroadsides y = new HexBroadsides();
-        y.addShip(0, 44, 0, 60, 7, 60);
-        y.addShip(1, 54, 0, 60, 12, 60);
-        y.fire(0, true, 1, 0);
-        Due.is("42 / 12 of the guns", y.ship(1, 5), 9);
-        Due.is("42 / 4 of the hull", y.ship(1, 3), 50);
+        HexBroadsides z = new HexBroadsides();
+        z.addShip(0, 44, 0, 60, 12, 60);
+        z.addShip(1, 54, 3, 60, 4, 60);
+        z.fire(0, true, 1, 0);
+        Due.is("right guns do not fall below 0", z.ship(1, 6), 0);
+        int[][] losses = {{7, 3, 10}, {10, 5, 15}, {11, 5, 16}, {1, 0, 1}, {2, 1, 3}};
+        for (int[] l : losses) {
+            for (int heading = 0; heading <= 3; heading += 3) {
+                HexBroadsides y = new HexBroadsides();
+                y.addShip(0, 44, 0, 60, l[0], 60);
+                y.addShip(1, 54, heading, 60, 12, 60);
+                y.fire(0, true, 1, 0);
+                String what = "force " + 6 * l[0] + " at heading " + heading + ": ";
+                Due.is(what + "guns", y.ship(1, heading == 0 ? 5 : 6), 12 - l[1]);
+                Due.is(what + "hull", y.ship(1, 3), 60 - l[2]);
+            }
+        }
+        theLeastForce();
+    }
+
+    private static void theLeastForce() {
+        HexBroadsides x = new HexBroadsides();
+        x.begin(12, 12);
+        x.addShip(0, 6, 0, 60, 1, 60);
+        x.addShip(1, 78, 0, 60, 1, 60);
+        Due.is("the least force", x.force(0, true, 1), 1);
+        Due.is("bestShot with the least force", x.bestShot(0), 3);
+        Due.is("bestShot at the ship 0", x.bestShot(1), 0);
+        Due.is("fire with the least force", x.fire(0, true, 1, 0), 0);
+        Due.is("the wait all the same", x.ship(0, 10), 1);
     }
 
     private static void fireAtSails() {
@@ -245,6 +288,16 @@ public final class FightsTest {
             x.endRound();
             Due.is(what + "right wait then", x.ship(0, 10), d[2] - 1);
         }
+        HexBroadsides y = new HexBroadsides();
+        y.addShip(0, 44, 0, 60, 3, 20);
+        y.addShip(1, 25, 0, 60, 11, 60);
+        y.fire(1, true, 0, 2);
+        y.fire(0, false, 1, 1);
+        Due.is("left wait of 2", y.ship(0, 9), 2);
+        y.endRound();
+        Due.is("left wait of 1", y.ship(0, 9), 1);
+        y.endRound();
+        Due.is("left wait of 0", y.ship(0, 9), 0);
         HexBroadsides x = new HexBroadsides();
         x.addShip(0, 44, 0, 60, 3, 20);
         x.addShip(1, 34, 3, 60, 3, 60);

@@ -11,6 +11,7 @@ public final class MovesTest {
         turn();
         tack();
         endRound();
+        oneSail();
         drift();
         Due.finish("MovesTest");
     }
@@ -190,6 +191,27 @@ public final class MovesTest {
         Due.is("one point in a calm", x.ship(0, 8), 1);
     }
 
+    /** With one sail a ship still sails and does not drift. */
+    private static void oneSail() {
+        HexBroadsides x = new HexBroadsides();
+        x.setWind(0, 1);
+        x.addShip(0, 44, 0, 60, 11, 60);
+        x.addShip(0, 43, 0, 60, 12, 60);
+        x.addShip(1, 63, 2, 60, 12, 60);
+        Due.is("sails lost", x.fire(0, true, 2, 1), 9);
+        Due.is("sails lost", x.fire(1, true, 2, 1), 10);
+        Due.is("sails left", x.ship(2, 4), 1);
+        Due.is("(1 * 1 * 1 + 19) / 20", x.ship(2, 12), 1);
+        Due.is("no drift with one sail", x.endRound(), 0);
+        Due.is("points with one sail", x.ship(2, 8), 1);
+        Due.is("reach with one sail", x.reach(2), 2);
+        Due.is("ahead with one sail", x.ahead(2), 72);
+        x.setWind(0, 0);
+        x.endRound();
+        Due.is("points with one sail in a calm", x.ship(2, 8), 1);
+        Due.is("turn with one sail", x.turn(2, false), 1);
+    }
+
     /** Ships 1 and 2 are the hulks; the gunners shoot away their sails at once. */
     private static HexBroadsides hulks(int first, int second) {
         HexBroadsides x = new HexBroadsides();
@@ -236,6 +258,17 @@ public final class MovesTest {
         z.grapple(3, 2);
         Due.is("no drift when grappled", z.endRound(), 0);
         sunkShipsDoNotDrift();
+        theFirstShipDrifts();
+    }
+
+    private static void theFirstShipDrifts() {
+        HexBroadsides x = new HexBroadsides();
+        x.setWind(2, 1);
+        x.addShip(0, 44, 4, 60, 12, 60);
+        x.addShip(1, 34, 3, 60, 12, 60);
+        Due.is("sails lost", x.fire(1, false, 0, 1), 20);
+        Due.is("drift with the strength 1", x.endRound(), 1);
+        Due.is("its cell", x.ship(0, 1), 53);
     }
 
     private static void sunkShipsDoNotDrift() {

@@ -69,7 +69,9 @@ public final class SeaTest {
         HexBroadsides x = new HexBroadsides();
         x.addShip(0, 44, 0, 60, 12, 60);
         x.addShip(1, 54, 3, 60, 12, 60);
+        x.addShip(1, 34, 3, 60, 12, 60);
         x.fire(0, true, 1, 2);
+        x.fire(0, false, 2, 2);
         x.fire(1, true, 0, 1);
         x.grapple(0, 1);
         x.board(0);
@@ -200,8 +202,22 @@ public final class SeaTest {
         x.setRock(98, false);
         Due.is("the last rock then", x.value(9), 50);
         Due.is("the rocks then", x.value(8), 2);
+        lastRocks();
         Due.refused(x, "value(-1)", ARGUMENT, () -> x.value(-1));
         Due.refused(x, "value(10)", ARGUMENT, () -> x.value(10));
+    }
+
+    private static void lastRocks() {
+        HexBroadsides x = new HexBroadsides();
+        x.begin(12, 12);
+        x.setRock(0, true);
+        Due.is("the first cell as last rock", x.value(9), 0);
+        x.setRock(143, true);
+        Due.is("the last cell as last rock", x.value(9), 143);
+        Due.is("both rocks", x.value(8), 2);
+        x.setRock(143, false);
+        x.setRock(142, true);
+        Due.is("the last cell but one as last rock", x.value(9), 142);
     }
 
     private static void ship() {

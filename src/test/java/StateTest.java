@@ -31,6 +31,37 @@ public final class StateTest {
         Due.is("undo() between calls", x.undo(), 1);
         Due.is("the last rock", x.value(9), 41);
         undoOfBegin();
+        undoBringsBackEveryPart();
+    }
+
+    /** The slots of the ships are used by others before the state comes back. */
+    private static void undoBringsBackEveryPart() {
+        HexBroadsides x = new HexBroadsides();
+        x.addShip(0, 44, 0, 60, 12, 20);
+        x.addShip(1, 63, 3, 60, 11, 60);
+        x.addShip(1, 34, 3, 60, 6, 6);
+        x.fire(1, true, 0, 2);
+        x.fire(0, false, 2, 1);
+        x.grapple(0, 2);
+        x.board(2);
+        String before = Due.portrait(x);
+        x.begin(4, 4);
+        x.addShip(1, 3, 5, 1, 1, 9);
+        x.addShip(1, 7, 5, 1, 1, 3);
+        x.undo();
+        x.undo();
+        x.undo();
+        Due.isTrue("every part of the ships is back", before.equals(Due.portrait(x)));
+        x.fire(0, true, 1, 1);
+        Due.is("the first crew is back", x.ship(0, 10), 2);
+        HexBroadsides y = new HexBroadsides();
+        y.addShip(0, 44, 2, 60, 12, 20);
+        y.ahead(0);
+        y.begin(4, 4);
+        y.addShip(0, 0, 3, 60, 12, 20);
+        y.undo();
+        y.undo();
+        Due.is("the way is back", y.turn(0, true), 3);
     }
 
     private static void undoOfBegin() {

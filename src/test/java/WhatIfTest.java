@@ -8,6 +8,7 @@ public final class WhatIfTest {
         threePoints();
         reachWithWay();
         reachRoundObstacles();
+        reachAsPlainModel();
         reachOfShipsThatStay();
         reachRefused();
         bestShot();
@@ -89,6 +90,37 @@ public final class WhatIfTest {
         x.setRock(4, true);
         x.setRock(2, true);
         Due.is("one cell and the own", x.reach(0), 2);
+    }
+
+    /** All cells, headings and winds at the greatest strength, as the slow search answers. */
+    private static void reachAsPlainModel() {
+        HexBroadsides x = new HexBroadsides();
+        PlainModel model = new PlainModel();
+        x.begin(12, 12);
+        model.begin(12, 12);
+        for (int rock : new int[] {64, 66, 79, 90, 91}) {
+            x.setRock(rock, true);
+            model.setRock(rock, true);
+        }
+        for (int heading = 0; heading < 6; heading++) {
+            x.setWind((heading + 1) % 6, 3);
+            model.setWind((heading + 1) % 6, 3);
+            x.addShip(0, 78, heading, 10, 2, 10);
+            model.addShip(0, 78, heading, 10, 2, 10);
+            for (int wind = 0; wind < 6; wind++) {
+                x.setWind(wind, 3);
+                model.setWind(wind, 3);
+                String what = " of heading " + heading + " in wind " + wind;
+                Due.is("reach" + what, x.reach(0), model.reach(0));
+                for (int cell = 0; cell < 144; cell++) {
+                    Due.is("pointsAt " + cell + what, x.pointsAt(0, cell), model.pointsAt(0, cell));
+                }
+                x.undo();
+                model.undo();
+            }
+            x.undo();
+            model.undo();
+        }
     }
 
     private static void reachOfShipsThatStay() {
