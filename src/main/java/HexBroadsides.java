@@ -1100,13 +1100,13 @@ public final class HexBroadsides {
                     note(next, heading, true, points);
                 }
             }
-            spreadTurn(cell, (heading + 1) % DIRECTIONS, hasWay, points);
-            spreadTurn(cell, (heading + DIRECTIONS - 1) % DIRECTIONS, hasWay, points);
-        }
-
-        private void spreadTurn(int cell, int heading, boolean hasWay, int points) {
-            if (hasWay || sea.angleToWind(heading) != OPPOSITE) {
-                note(cell, heading, false, points);
+            int right = (heading + 1) % DIRECTIONS;
+            if (hasWay || sea.angleToWind(right) != OPPOSITE) {
+                note(cell, right, false, points);
+            }
+            int left = (heading + DIRECTIONS - 1) % DIRECTIONS;
+            if (hasWay || sea.angleToWind(left) != OPPOSITE) {
+                note(cell, left, false, points);
             }
         }
 
