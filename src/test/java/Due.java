@@ -4,6 +4,9 @@ final class Due {
         Object run();
     }
 
+    /** Where the test stands, if it tells that: it goes ahead of each wrong answer. */
+    static String place = "";
+
     private static int right = 0;
     private static int wrong = 0;
 
@@ -20,6 +23,15 @@ final class Due {
 
     static void isTrue(String what, boolean got) {
         note(got, what);
+    }
+
+    static void same(String what, String got, String want) {
+        note(got.equals(want), what + " answered " + got + ", due is " + want);
+    }
+
+    /** How many answers have been compared. */
+    static int answers() {
+        return right + wrong;
     }
 
     /** The call throws exactly this exception, and the digest tells that nothing changed. */
@@ -49,7 +61,7 @@ final class Due {
             right++;
         } else {
             wrong++;
-            System.out.println("  wrong: " + message);
+            System.out.println("  wrong: " + (place.isEmpty() ? "" : "[" + place + "] ") + message);
         }
     }
 
@@ -72,13 +84,15 @@ final class Due {
         for (int what = 0; what <= 9; what++) {
             all.append(x.value(what)).append(' ');
         }
-        for (int i = 0; i < x.value(5); i++) {
+        int ships = x.value(5);
+        for (int i = 0; i < ships; i++) {
             for (int what = 0; what <= 14; what++) {
                 all.append(x.ship(i, what)).append(' ');
             }
             all.append(x.reach(i)).append(' ');
         }
-        for (int cell = 0; cell < x.value(0) * x.value(1); cell++) {
+        int cells = x.value(0) * x.value(1);
+        for (int cell = 0; cell < cells; cell++) {
             all.append(x.at(cell)).append(' ');
         }
         return all.toString();

@@ -12,15 +12,10 @@ public final class StateTest {
     }
 
     private static void undoKeepsFour() {
-        HexBroadsides x = new HexBroadsides();
-        String[] portraits = new String[8];
-        for (int i = 0; i < 8; i++) {
-            portraits[i] = Due.portrait(x);
-            x.setRock(i, true);
-        }
+        HexBroadsides x = withRocks(8);
         for (int i = 3; i >= 0; i--) {
             Due.is("undo()", x.undo(), i);
-            Due.isTrue("the state before call " + (i + 4), portraits[i + 4].equals(Due.portrait(x)));
+            Due.same("the state before call " + (i + 4), Due.portrait(x), Due.portrait(withRocks(i + 4)));
         }
         Due.refused(x, "a fifth undo()", STATE, () -> x.undo());
         Due.is("the rocks that stay", x.value(8), 4);
@@ -32,6 +27,14 @@ public final class StateTest {
         Due.is("the last rock", x.value(9), 41);
         undoOfBegin();
         undoBringsBackEveryPart();
+    }
+
+    private static HexBroadsides withRocks(int rocks) {
+        HexBroadsides x = new HexBroadsides();
+        for (int i = 0; i < rocks; i++) {
+            x.setRock(i, true);
+        }
+        return x;
     }
 
     /** The slots of the ships are used by others before the state comes back. */
@@ -93,31 +96,30 @@ public final class StateTest {
         return x;
     }
 
-    private static void saves(String what, HexBroadsides x, Due.Call call) {
+    private static void saves(String what, Edge.Question call) {
+        HexBroadsides x = duel();
         String before = Due.portrait(x);
-        call.run();
+        call.ask(x);
         Due.is("undo() of " + what, x.undo(), 2);
         Due.isTrue(what + " is undone whole", before.equals(Due.portrait(x)));
     }
 
     private static void everyUndoableCallSaves() {
-        HexBroadsides x = duel();
-        saves("begin", x, () -> x.begin(4, 4));
-        saves("setRock", x, () -> x.setRock(0, true));
-        saves("setRock of the same", x, () -> x.setRock(0, false));
-        saves("setWind", x, () -> x.setWind(3, 3));
-        saves("setWind of the same", x, () -> x.setWind(0, 2));
-        saves("addShip", x, () -> x.addShip(0, 0, 0, 1, 1, 1));
-        saves("ahead", x, () -> x.ahead(0));
-        saves("turn", x, () -> x.turn(0, true));
-        saves("endRound", x, () -> x.endRound());
-        saves("fire at the hull", x, () -> x.fire(0, true, 1, 0));
-        saves("fire at the sails", x, () -> x.fire(0, true, 1, 1));
-        saves("fire at the crew", x, () -> x.fire(0, true, 1, 2));
-        saves("grapple", x, () -> x.grapple(0, 1));
-        saves("carryOut of nothing", x, () -> x.carryOut());
-        Due.append(x, "0a;e;w3;");
-        saves("carryOut", x, () -> x.carryOut());
+        saves("begin", x -> x.begin(4, 4));
+        saves("setRock", x -> x.setRock(0, true));
+        saves("setRock of the same", x -> x.setRock(0, false));
+        saves("setWind", x -> x.setWind(3, 3));
+        saves("setWind of the same", x -> x.setWind(0, 2));
+        saves("addShip", x -> x.addShip(0, 0, 0, 1, 1, 1));
+        saves("ahead", x -> x.ahead(0));
+        saves("turn", x -> x.turn(0, true));
+        saves("endRound", x -> x.endRound());
+        saves("fire at the hull", x -> x.fire(0, true, 1, 0));
+        saves("fire at the sails", x -> x.fire(0, true, 1, 1));
+        saves("fire at the crew", x -> x.fire(0, true, 1, 2));
+        saves("grapple", x -> x.grapple(0, 1));
+        saves("carryOut of nothing", x -> x.carryOut());
+        saves("carryOut", x -> Due.order(x, "0a;e;w3;"));
         HexBroadsides y = new HexBroadsides();
         y.addShip(0, 44, 0, 60, 12, 60);
         y.addShip(1, 54, 0, 60, 12, 60);
@@ -158,13 +160,15 @@ public final class StateTest {
         for (int what = 0; what <= 9; what++) {
             h = 31 * h + x.value(what);
         }
-        for (int i = 0; i < x.value(5); i++) {
+        int ships = x.value(5);
+        for (int i = 0; i < ships; i++) {
             for (int what = 0; what <= 14; what++) {
                 h = 31 * h + x.ship(i, what);
             }
             h = 31 * h + x.reach(i);
         }
-        for (int cell = 0; cell < x.value(0) * x.value(1); cell++) {
+        int cells = x.value(0) * x.value(1);
+        for (int cell = 0; cell < cells; cell++) {
             h = 31 * h + x.at(cell);
         }
         return 31 * h + saved;
@@ -175,18 +179,29 @@ public final class StateTest {
         Due.is("digest of a new object", x.digest(), hashOf(x, 0, 0));
         x.addShip(0, 44, 0, 60, 12, 60);
         Due.is("digest with a ship", x.digest(), hashOf(x, 0, 1));
+        HexBroadsides y = sinking();
+        Due.is("digest with two ships", y.digest(), hashOf(y, 0, 3));
+        y.fire(0, true, 1, 0);
+        y.endRound();
+        Due.is("digest with four saved states", y.digest(), hashOf(y, 0, 4));
+        HexBroadsides z = sinking();
+        z.fire(0, true, 1, 0);
+        z.endRound();
+        z.undo();
+        Due.is("digest behind undo()", z.digest(), hashOf(z, 0, 3));
+        z.begin(4, 4);
+        Due.is("digest of the least sea", z.digest(), hashOf(z, 0, 4));
+        z.begin(12, 12);
+        Due.is("digest of the greatest sea", z.digest(), hashOf(z, 0, 4));
+    }
+
+    /** The next shot of ship 0 to the right sinks ship 1. */
+    private static HexBroadsides sinking() {
+        HexBroadsides x = new HexBroadsides();
+        x.addShip(0, 44, 0, 60, 12, 60);
         x.addShip(1, 54, 0, 12, 12, 60);
         x.setRock(3, true);
-        Due.is("digest with two ships", x.digest(), hashOf(x, 0, 3));
-        x.fire(0, true, 1, 0);
-        x.endRound();
-        Due.is("digest with four saved states", x.digest(), hashOf(x, 0, 4));
-        x.undo();
-        Due.is("digest behind undo()", x.digest(), hashOf(x, 0, 3));
-        x.begin(4, 4);
-        Due.is("digest of the least sea", x.digest(), hashOf(x, 0, 4));
-        x.begin(12, 12);
-        Due.is("digest of the greatest sea", x.digest(), hashOf(x, 0, 4));
+        return x;
     }
 
     private static void digestTellsTheText() {
