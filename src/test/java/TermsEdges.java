@@ -625,5 +625,48 @@ final class TermsEdges {
             x.addShip(0, 22, 2, 60, 12, 60);
             return x;
         }, x -> x.turn(1, true));
+        wayAndOtherCalls();
+    }
+
+    /** Only moving ahead gives way, and only turning or the end of the round takes it. */
+    private static void wayAndOtherCalls() {
+        Edge.Question[] others = {
+            x -> x.setRock(0, true), x -> x.setWind(0, 2), x -> x.setWind(1, 3) + x.setWind(0, 3),
+            x -> x.addShip(1, 0, 0, 60, 12, 60) + x.ahead(2) + x.turn(2, true) + x.turn(2, false),
+            x -> x.fire(0, false, 1, 0) + x.fire(1, true, 0, 0),
+            x -> x.fire(0, false, 1, 1) + x.fire(1, true, 0, 1),
+            x -> x.fire(0, false, 1, 2) + x.fire(1, true, 0, 2),
+            x -> x.grapple(0, 1) + x.cut(0), x -> x.grapple(0, 1) + x.cut(1),
+            x -> x.grapple(0, 1) + x.board(0) + x.board(1) + x.cut(0),
+            x -> x.setRock(1, true) + x.undo(), x -> Due.order(x, "") + Due.order(x, "w1;w0;"),
+            x -> x.begin(5, 5) + x.undo()
+        };
+        for (int i = 0; i < others.length; i++) {
+            wayStays("calls " + i, 60, 60, others[i]);
+        }
+        wayStays("taking the ship 1", 60, 20, x -> x.grapple(0, 1) + x.board(0));
+        wayStays("taking the ship 0", 20, 60, x -> x.grapple(0, 1) + x.board(1));
+    }
+
+    private static void wayStays(String what, int crew, int otherCrew, Edge.Question call) {
+        for (int ship = 0; ship < 2; ship++) {
+            int n = ship;
+            HexBroadsides moved = abreast(44, crew, otherCrew);
+            Due.is("ahead", moved.ahead(0) + moved.ahead(1), 53 + 54);
+            HexBroadsides still = abreast(53, crew, otherCrew);
+            Due.same(what + " moved and still", Due.answerOf(() -> call.ask(moved)), Due.answerOf(() -> call.ask(still)));
+            Due.same("a tack of ship " + n + ", moved, behind " + what, Due.answerOf(() -> moved.turn(n, true)), "3");
+            Due.same("a tack of ship " + n + ", not moved, behind " + what,
+                    Due.answerOf(() -> still.turn(n, true)), "throws.IllegalStateException");
+        }
+    }
+
+    /** Two enemies side by side at the angle 2, each in an arc of the other one. */
+    private static HexBroadsides abreast(int cell, int crew, int otherCrew) {
+        HexBroadsides x = new HexBroadsides();
+        x.setWind(0, 3);
+        x.addShip(0, cell, 2, 60, 12, crew);
+        x.addShip(1, cell + 1, 2, 60, 12, otherCrew);
+        return x;
     }
 }
